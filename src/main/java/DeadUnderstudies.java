@@ -1,10 +1,12 @@
 import java.util.Arrays;
 
-/** A town in which an office goes on with its holder's understudy. DOC.md tells what each call does. */
+/**
+ * A town in which an office goes on with its holder's understudy, as ../shared/DOC.md tells it.
+ * All rows are made with the object and used again, as nothing that a call makes is ever given back.
+ */
 public final class DeadUnderstudies {
     public static final int NONE = -1;
 
-    // What a call can be REFUSED by.
     private static final int BAD_NUMBER = -1;
     private static final int NO_SUCH = -2;
     private static final int NOT_SO = -3;
@@ -181,7 +183,7 @@ public final class DeadUnderstudies {
         int came = 0;
         prattleRules = 0;
         for (int at = 0; at < tapeBytes; at += 4) {
-            if (takeBytes(script, at)) came++;
+            if (takeRuleAt(at, script)) came++;
             else prattleRules++;
         }
         tapeBytes = 0;
@@ -220,7 +222,7 @@ public final class DeadUnderstudies {
     public int asks(int person, int part, int teacher, int what) {
         if (!town.people.has(person) || !town.hasPart(part)) return NONE;
         if (teacher != NONE && !town.people.has(teacher)) return NONE;
-        if (what < 0 || what >= Town.ANSWERS) return NONE;
+        if (what < 0 || what >= Program.LAW_KINDS) return NONE;
         town.hear(person, part, teacher, town.terms[YEAR]);
         return town.heard[what];
     }
@@ -530,8 +532,7 @@ public final class DeadUnderstudies {
         }
     }
 
-    /** Whether four bytes of the TAPE were a RULE, which the SCRIPT has then. */
-    private boolean takeBytes(Script script, int at) {
+    private boolean takeRuleAt(int at, Script script) {
         if (at < 0 || at + 3 >= tapeBytes) return false;
         int state = tape[at];
         int cue = tape[at + 1];
@@ -579,8 +580,8 @@ public final class DeadUnderstudies {
         return more > 0 && ways > MOST_WAYS / more ? MOST_WAYS : ways * more;
     }
 
-    /** Of 100 to the n chances those in which k of n hands slip: n choose k, as hands are too few to go round. */
     private static long chances(int n, int k, int slip) {
+        // So few hands never bring a WORD all the way round.
         if (k > n) return 0;
         long ways = 1;
         for (int hand = 1; hand <= n; hand++) {
@@ -604,12 +605,11 @@ public final class DeadUnderstudies {
             if (pupil < 0 || pupil >= PEOPLE_ROOM) return;
             pupilTimes[pupil]++;
             town.hear(pupil, part, NONE, town.terms[YEAR]);
-            s = passOn(s, town.heard[Town.SLIPS]);
+            s = seedBehindLesson(s, town.heard[Program.SLIPS]);
         }
     }
 
-    /** One lesson of a CENTURY; what its DRAWS leave the seed at. */
-    private int passOn(int seed, int slips) {
+    private int seedBehindLesson(int seed, int slips) {
         int s = seed;
         for (int at = 0; at < RULES; at++) {
             int word = centuryScript.wordAt(at / CUES, at % CUES);
@@ -621,17 +621,17 @@ public final class DeadUnderstudies {
     }
 
     private static int nextSeed(int s) {
+        // From below 1,000,003 an int does not go round here.
         return (s * 1103 + 12345) % 1000003;
     }
 
-    /** The RULES of a SCRIPT, a HOLE as NONE in both rows. */
+    /** A HOLE is NONE in both rows, so that RULES are compared without a look at what they are. */
     private static final class Script {
         private final int[] words = new int[RULES];
         private final int[] nexts = new int[RULES];
 
         Script() {
-            Arrays.fill(words, NONE);
-            Arrays.fill(nexts, NONE);
+            clear();
         }
 
         void clear() {
@@ -721,14 +721,13 @@ public final class DeadUnderstudies {
             return has(person) && born[person] <= year && year < dead[person];
         }
 
-        /** The first YEAR in which both are ALIVE, if there is one. */
-        int firstYear(int one, int other) {
+        int firstYearTogether(int one, int other) {
             return has(one) && has(other) ? Math.max(born[one], born[other]) : NONE;
         }
 
         int yearsTogether(int one, int other) {
             if (!has(one) || !has(other)) return 0;
-            return Math.min(dead[one], dead[other]) - firstYear(one, other);
+            return Math.min(dead[one], dead[other]) - firstYearTogether(one, other);
         }
     }
 
@@ -766,21 +765,22 @@ public final class DeadUnderstudies {
         }
     }
 
-    /** A TEXT that was read: CLAUSES, and their SUMS and TESTS as steps of a machine with a stack. */
+    /** A TEXT's SUMS and TESTS are steps for a stack, so that telling them makes no objects and goes no depth. */
     private static final class Program {
-        // Beyond all that a SUM may tell, as what comes of dividing by 0 is found the same way.
+        // It lies beyond all that a SUM may tell: so one look finds what is too large and what was divided by 0.
         private static final long BROKEN = -4000000000000000000L;
         private static final long MOST_VALUE = 1000000000L;
         private static final int CLAUSE_ROOM = 12;
         private static final int STACK_ROOM = 64;
         private static final int ANYWHERE = STATES;
 
-        // The kinds of CLAUSES; those of a LAW but for "bars" are the answers of Town.heard they tell.
+        // A LAW's kinds have the numbers that asks() has for what they tell.
         private static final int SLIPS = 0;
         private static final int HOURS = 1;
         private static final int BARS = 2;
         private static final int SAY = 3;
         private static final int HUSH = 4;
+        private static final int LAW_KINDS = 3;
 
         private static final int CLOSE = 0;
         private static final int NUMBER = 1;
@@ -838,8 +838,7 @@ public final class DeadUnderstudies {
             clauses++;
         }
 
-        /** Marks in one of the rows sums, goes, tests that the latest CLAUSE has its own from here on. */
-        void mark(int[] starts) {
+        void startHere(int[] starts) {
             if (clauses > 0 && clauses <= CLAUSE_ROOM) starts[clauses - 1] = size;
         }
 
@@ -850,8 +849,7 @@ public final class DeadUnderstudies {
             size++;
         }
 
-        /** Lets an "and", "or" that was emitted leap to here. */
-        void land(int from) {
+        void leapToHere(int from) {
             if (from >= 0 && from < size) items[from] = size;
         }
 
@@ -864,7 +862,7 @@ public final class DeadUnderstudies {
             return tests[clause] < 0 || tell(tests[clause], values) == 1;
         }
 
-        /** What the SUM or the TEST (1, 0) tells that starts at a step: BROKEN, if it is. */
+        /** A TEST tells 1 or 0: so one stack does for it and its SUMS. */
         long tell(int start, int[] values) {
             int height = 0;
             for (int at = Math.max(start, 0); at < size && steps[at] != CLOSE; at++) {
@@ -913,14 +911,8 @@ public final class DeadUnderstudies {
         }
     }
 
-    /** All that an IMAGE keeps. */
+    /** Just what an IMAGE keeps. */
     private static final class Town {
-        // The answers of hear(), by the numbers that Program has for their CLAUSES.
-        private static final int SLIPS = Program.SLIPS;
-        private static final int HOURS = Program.HOURS;
-        private static final int BARS = Program.BARS;
-        private static final int ANSWERS = 3;
-
         private int parts = 0;
         private final int[] from = new int[PART_ROOM];
         private final int[] till = new int[PART_ROOM];
@@ -938,7 +930,7 @@ public final class DeadUnderstudies {
         private int laws = 0;
         private int inForce = NONE;
         private final Program[] lawTexts = new Program[LAW_ROOM];
-        private final int[] heard = new int[ANSWERS];
+        private final int[] heard = new int[Program.LAW_KINDS];
         private final int[] values = new int[8];
 
         Town() {
@@ -964,7 +956,7 @@ public final class DeadUnderstudies {
             System.arraycopy(that.terms, 0, terms, 0, TERMS);
             laws = that.laws;
             inForce = that.inForce;
-            for (int i = 0; i < LAW_ROOM; i++) lawTexts[i].copyFrom(that.lawTexts[i]);
+            for (int i = 0; i < laws && i < LAW_ROOM; i++) lawTexts[i].copyFrom(that.lawTexts[i]);
         }
 
         boolean hasPart(int part) {
@@ -1022,7 +1014,7 @@ public final class DeadUnderstudies {
 
         int versionsOf(int part) {
             int number = 0;
-            for (int i = 0; i < versions; i++) {
+            for (int i = 0; i < versions && i < VERSION_ROOM; i++) {
                 if (versionPart[i] == part) number++;
             }
             return number;
@@ -1035,7 +1027,7 @@ public final class DeadUnderstudies {
         boolean mayBegin(int part, int person) {
             if (!isAlive(person)) return false;
             hear(person, part, NONE, terms[YEAR]);
-            return heard[BARS] == 0;
+            return heard[Program.BARS] == 0;
         }
 
         boolean mayLearn(int version, int person) {
@@ -1045,17 +1037,16 @@ public final class DeadUnderstudies {
             return isTaught(versionPart[version], master, person, terms[YEAR]);
         }
 
-        /** Whether a LAW lets a pupil learn a PART of a master, asked in a YEAR. */
         boolean isTaught(int part, int master, int pupil, int year) {
             hear(pupil, part, master, year);
-            return heard[BARS] == 0 && people.yearsTogether(master, pupil) >= heard[HOURS];
+            return heard[Program.BARS] == 0 && people.yearsTogether(master, pupil) >= heard[Program.HOURS];
         }
 
-        /** Asks the LAW in FORCE; the answers are in heard. */
+        /** Leaves three answers in heard, as all of them come of one way through the LAW. */
         void hear(int person, int part, int master, int year) {
-            heard[SLIPS] = terms[SLIP];
-            heard[HOURS] = 1;
-            heard[BARS] = 0;
+            heard[Program.SLIPS] = terms[SLIP];
+            heard[Program.HOURS] = 1;
+            heard[Program.BARS] = 0;
             if (!hasLaw(inForce) || !people.has(person)) return;
             values[0] = person;
             values[1] = people.memory[person];
@@ -1073,16 +1064,15 @@ public final class DeadUnderstudies {
 
         private void hearClause(Program text, int clause) {
             if (text.kinds[clause] == Program.BARS) {
-                heard[BARS] = 1;
+                heard[Program.BARS] = 1;
                 return;
             }
             long told = text.tell(text.sums[clause], values);
             if (told == Program.BROKEN) return;
-            if (text.kinds[clause] == Program.SLIPS) heard[SLIPS] = nearest(told, 100);
-            else heard[HOURS] = nearest(told, 99);
+            if (text.kinds[clause] == Program.SLIPS) heard[Program.SLIPS] = nearest(told, 100);
+            else heard[Program.HOURS] = nearest(told, 99);
         }
 
-        /** Runs a PLAY on a PART: how many RULES were said, hushed. */
         int perform(Program text, int part) {
             int done = 0;
             for (int i = 0; i < text.clauses && i < Program.CLAUSE_ROOM; i++) {
@@ -1115,11 +1105,10 @@ public final class DeadUnderstudies {
             return true;
         }
 
-        /** The WORD a SCRIPT says at the i-th of the CUES, or STOPPED. */
         int wordAtCue(Script script, int i) {
             int word = STOPPED;
             int state = 0;
-            for (int k = 0; k <= i && k < cues; k++) {
+            for (int k = 0; k <= i && k < cues && k < CUE_ROOM; k++) {
                 word = script.wordAt(state, cueRow[k]);
                 if (word < 0) return STOPPED;
                 state = script.nextAt(state, cueRow[k]);
@@ -1127,11 +1116,10 @@ public final class DeadUnderstudies {
             return word;
         }
 
-        /** Puts into an empty SCRIPT the RULES that another one meets at the CUES, the i-th met with a SLIP. */
         void watch(Script played, Script learned, int slip) {
             int met = 0;
             int state = 0;
-            for (int k = 0; k < cues; k++) {
+            for (int k = 0; k < cues && k < CUE_ROOM; k++) {
                 int cue = cueRow[k];
                 int word = played.wordAt(state, cue);
                 if (word < 0) return;
@@ -1144,10 +1132,9 @@ public final class DeadUnderstudies {
             }
         }
 
-        /** By WORDS how many VERSIONS of a PART say it at the last CUE; behind the WORDS how many STOPPED. */
         void countVotes(int part, int[] votes) {
             Arrays.fill(votes, 0);
-            for (int i = 0; i < versions; i++) {
+            for (int i = 0; i < versions && i < VERSION_ROOM; i++) {
                 if (versionPart[i] != part || !isAlive(holder[i])) continue;
                 int word = wordAtCue(versionScripts[i], cues - 1);
                 int box = word == STOPPED ? WORDS : word;
@@ -1155,10 +1142,9 @@ public final class DeadUnderstudies {
             }
         }
 
-        /** By WORDS how many VERSIONS of a PART have it at a RULE. */
         void countTellers(int part, int state, int cue, int[] tellers) {
             Arrays.fill(tellers, 0);
-            for (int i = 0; i < versions; i++) {
+            for (int i = 0; i < versions && i < VERSION_ROOM; i++) {
                 if (versionPart[i] != part) continue;
                 int word = versionScripts[i].wordAt(state, cue);
                 if (word >= 0 && word < tellers.length) tellers[word]++;
@@ -1166,23 +1152,20 @@ public final class DeadUnderstudies {
         }
     }
 
-    /**
-     * Reads a TEXT into a Program, with rows of its own for what is still open, so that no TEXT is too deep for it.
-     * Each reading function leaves the place of the FAULT and tells false at one.
-     */
+    /** What is still open waits in rows, not in open calls, so that no TEXT is too deep for it. */
     private static final class Reader {
         private static final int PART_LIMIT = 50;
         private static final int BRACKET_LIMIT = 8;
         private static final int NUMBER_LIMIT = 1000;
 
-        // How far a SUM, or a TEST within its brackets, has come.
+        // Where in its innermost bracket a TEXT is: that alone tells which TOKENS can go on.
         private static final int IN_SUM = 0;
         private static final int AT_PLAIN = 1;
         private static final int LEFT_SUM = 2;
         private static final int RIGHT_SUM = 3;
         private static final int BEHIND_TEST = 4;
 
-        // What binds how strongly; an open bracket is a CLOSE that waits for its end.
+        // An open bracket waits as a CLOSE, which is weaker than all, so that nothing is emitted across it.
         private static final int WEAKEST = 1;
         private static final int COMPARING = 4;
 
@@ -1259,9 +1242,9 @@ public final class DeadUnderstudies {
         }
 
         private boolean readExpression(int[] starts, int stage) {
-            program.mark(starts);
+            program.startHere(starts);
             brackets = 0;
-            stages[0] = stage;
+            setStage(stage);
             waiting = 0;
             boolean partRead = false;
             for (int token = 0; token <= TAPE_ROOM; token++) {
@@ -1295,9 +1278,8 @@ public final class DeadUnderstudies {
             return true;
         }
 
-        /** Reads what may stand ahead of a PART. */
         private boolean readOpening() {
-            boolean atPlain = stages[brackets] == AT_PLAIN;
+            boolean atPlain = stageHere() == AT_PLAIN;
             boolean opensTest = atPlain && isSign('(');
             if (atPlain && isWord("not")) {
                 push(Program.NOT, NONE);
@@ -1305,7 +1287,7 @@ public final class DeadUnderstudies {
                 if (!opensTest) openSum();
                 push(Program.CLOSE, NONE);
                 brackets++;
-                stages[brackets] = opensTest ? AT_PLAIN : IN_SUM;
+                setStage(opensTest ? AT_PLAIN : IN_SUM);
             } else {
                 return fail();
             }
@@ -1314,32 +1296,39 @@ public final class DeadUnderstudies {
         }
 
         private void openSum() {
-            if (stages[brackets] == AT_PLAIN) stages[brackets] = LEFT_SUM;
+            if (stageHere() == AT_PLAIN) setStage(LEFT_SUM);
         }
 
         private boolean isClosing() {
             if (brackets <= 0) return false;
-            return isSign(']') ? stages[brackets] == IN_SUM : isSign(')') && isWholeTest();
+            return isSign(']') ? stageHere() == IN_SUM : isSign(')') && isWholeTest();
         }
 
         private void readClosing() {
             reduce(WEAKEST);
             if (waiting > 0) waiting--;
             brackets--;
-            if (isSign(')')) stages[brackets] = BEHIND_TEST;
+            if (isSign(')')) setStage(BEHIND_TEST);
             advance();
         }
 
         private boolean isWholeTest() {
-            return stages[brackets] == RIGHT_SUM || stages[brackets] == BEHIND_TEST;
+            return stageHere() == RIGHT_SUM || stageHere() == BEHIND_TEST;
         }
 
-        /** The operator that the TOKEN is, if it can stand here, behind a PART or a bracket's end. */
+        private int stageHere() {
+            return brackets >= 0 && brackets < stages.length ? stages[brackets] : IN_SUM;
+        }
+
+        private void setStage(int stage) {
+            if (brackets >= 0 && brackets < stages.length) stages[brackets] = stage;
+        }
+
         private int operatorHere() {
             if (isWholeTest() && isWord("and")) return Program.AND;
             if (isWholeTest() && isWord("or")) return Program.OR;
-            if (stages[brackets] == BEHIND_TEST || start >= length) return NONE;
-            boolean comparable = stages[brackets] == LEFT_SUM;
+            if (stageHere() == BEHIND_TEST || start >= length) return NONE;
+            boolean comparable = stageHere() == LEFT_SUM;
             switch (tape[start]) {
                 case '+': return Program.ADD;
                 case '-': return Program.SUBTRACT;
@@ -1359,13 +1348,13 @@ public final class DeadUnderstudies {
             boolean joins = step == Program.AND || step == Program.OR;
             if (joins) program.emit(step, 0);
             push(step, leap);
-            if (joins) stages[brackets] = AT_PLAIN;
-            else if (strength(step) == COMPARING) stages[brackets] = RIGHT_SUM;
+            if (joins) setStage(AT_PLAIN);
+            else if (strength(step) == COMPARING) setStage(RIGHT_SUM);
             advance();
         }
 
         private boolean closeExpression() {
-            if (brackets > 0 || stages[0] != IN_SUM && !isWholeTest()) return fail();
+            if (brackets > 0 || stageHere() != IN_SUM && !isWholeTest()) return fail();
             reduce(WEAKEST);
             program.emit(Program.CLOSE, 0);
             return true;
@@ -1378,12 +1367,11 @@ public final class DeadUnderstudies {
             waiting++;
         }
 
-        /** Emits all that waits within the bracket and binds as strongly or more. */
         private void reduce(int least) {
             while (waiting > 0 && strength(waitingSteps[waiting - 1]) >= least) {
                 waiting--;
                 int step = waitingSteps[waiting];
-                if (step == Program.AND || step == Program.OR) program.land(waitingLeaps[waiting]);
+                if (step == Program.AND || step == Program.OR) program.leapToHere(waitingLeaps[waiting]);
                 else program.emit(step, 0);
             }
         }
@@ -1400,8 +1388,8 @@ public final class DeadUnderstudies {
             }
         }
 
-        /** By a PLAY's word its place among the values of Town.performAt, by a LAW's among those of Town.hear. */
         private int nameHere() {
+            // The numbers are the places that Town.performAt and Town.hear give to the values.
             if (isWord("part")) return 4;
             if (isWord("mood")) return isPlay ? 5 : 7;
             if (isPlay) return isWord("state") ? 0 : isWord("cue") ? 1 : isWord("word") ? 2 : isWord("next") ? 3 : NONE;
@@ -1430,8 +1418,8 @@ public final class DeadUnderstudies {
             return true;
         }
 
-        /** Goes on to the next TOKEN, from start till stop; at the end both are the TEXT's length. */
         private void advance() {
+            // At the end start is the TEXT's length, which is where its FAULT is.
             start = stop;
             while (start < length && tape[start] == ' ') start++;
             stop = start;
@@ -1462,9 +1450,9 @@ public final class DeadUnderstudies {
             return true;
         }
 
-        /** The NUMBER that the TOKEN is (one too large as one above the limit), or NONE. */
         private int numberHere() {
             if (!isDigit(start)) return NONE;
+            // One too large stays just above the limit: a row of digits may be longer than an int.
             int number = 0;
             for (int at = start; at < stop && isDigit(at); at++) {
                 number = Math.min(number * 10 + tape[at] - '0', NUMBER_LIMIT + 1);
@@ -1473,7 +1461,7 @@ public final class DeadUnderstudies {
         }
     }
 
-    /** The shortest row of CUES, the first, at which two SCRIPTS are APART or both STOP. */
+    /** Pairs of STATES wait in the order of their rows of CUES, so that the first end found has the first row. */
     private static final class Route {
         private static final int PAIRS = STATES * STATES;
 
@@ -1515,7 +1503,6 @@ public final class DeadUnderstudies {
             waiting++;
         }
 
-        /** Writes the row that leads to a pair in the queue and one CUE more. */
         private void trace(int last, int lastCue) {
             length = 1;
             for (int at = last; at > 0 && length < PAIRS; at = aheadOf[at]) length++;
@@ -1533,7 +1520,7 @@ public final class DeadUnderstudies {
         }
     }
 
-    /** A TALK of two VERSIONS, in SCRIPTS of its own, so that it can mend them. */
+    /** A TALK has SCRIPTS of its own, so that it can mend them. */
     private static final class Duet {
         private static final int PLACES = STATES * STATES * 2 * CUES;
 
@@ -1544,7 +1531,7 @@ public final class DeadUnderstudies {
         private int secondState = 0;
         private boolean firstTurn = true;
         private int cue = 0;
-        // seen[] holds a number above base only if this run was there, so that it need not be cleared for each.
+        // Below base all is of earlier runs, so that it need not be cleared for each.
         private final int[] seen = new int[PLACES];
         private int base = 0;
         private int stopsBehind = NONE;
@@ -1575,7 +1562,6 @@ public final class DeadUnderstudies {
             return firstTurn ? firstState : secondState;
         }
 
-        /** The WORD that is said now; NONE, if whose turn it is STOPS. */
         private int speak() {
             Script script = speaker();
             int word = script.wordAt(speakerState(), cue);
@@ -1651,11 +1637,11 @@ public final class DeadUnderstudies {
         }
     }
 
-    /** The LEAST PART: goes through all ways in which a SCRIPT's STATES can stand behind the DEEDS. */
+    /** DEEDS fix a SCRIPT but for the STATES in which they are told, so all of those are gone through. */
     private static final class Least {
         private static final int MOST_STATES = 3;
 
-        // The DEEDS, ROW by ROW.
+        // ROW by ROW, as that is how STATES are numbered.
         private int number = 0;
         private final int[] rows = new int[DEED_ROOM];
         private final int[] cues = new int[DEED_ROOM];
@@ -1717,7 +1703,6 @@ public final class DeadUnderstudies {
             explore(0, 0, 1);
         }
 
-        /** All ways for the DEEDS from one on, which is told in a STATE, while so many STATES have been met. */
         private void explore(int deed, int state, int met) {
             if (oneIsEnough && ways > 0 || bits == ALL_WORDS) return;
             if (deed >= number || deed >= DEED_ROOM) {
@@ -1739,6 +1724,7 @@ public final class DeadUnderstudies {
 
         private void branch(int deed, int rule, int met) {
             if (rule < 0 || rule >= goes.length) return;
+            // No STATE beyond the next new one: with other numbers it would be the same way again.
             for (int next = 0; next <= met && next < limit; next++) {
                 goes[rule] = next;
                 explore(deed + 1, next, Math.max(met, next + 1));
@@ -1754,7 +1740,6 @@ public final class DeadUnderstudies {
             return state < 0 || state >= MOST_STATES || cue < 0 || cue >= CUES ? NONE : state * CUES + cue;
         }
 
-        /** What the SCRIPTS of the way at hand could say at the CUE that is asked of. */
         private int wordsHere() {
             int state = stateBehindRow();
             if (state >= 0) return wordsOf(state);
@@ -1763,7 +1748,6 @@ public final class DeadUnderstudies {
             return could;
         }
 
-        /** The STATE to which the ROW leads that is asked of; NONE, if no DEED tells. */
         private int stateBehindRow() {
             int last = askedRow >= 0 && askedRow < ROWS ? lastOfRow[askedRow] : NONE;
             if (last < 0 || last >= DEED_ROOM) return 0;
@@ -1777,7 +1761,7 @@ public final class DeadUnderstudies {
         }
     }
 
-    /** A CHAIN of pupils, found in the order of its length and its PEOPLE. */
+    /** PEOPLE wait in the order of their rows, so that the first of those who live longest has the first row. */
     private static final class Chain {
         private People people = new People();
         private final boolean[] mayTeach = new boolean[PEOPLE_ROOM * PEOPLE_ROOM];
@@ -1795,11 +1779,10 @@ public final class DeadUnderstudies {
                 int master = at / PEOPLE_ROOM;
                 int pupil = at % PEOPLE_ROOM;
                 mayTeach[at] = master != pupil && people.yearsTogether(master, pupil) > 0
-                    && town.isTaught(part, master, pupil, people.firstYear(master, pupil));
+                    && town.isTaught(part, master, pupil, people.firstYearTogether(master, pupil));
             }
         }
 
-        /** Finds the CHAIN from a PERSON on in a town without another one (NONE: with all). */
         void seek(int first, int without) {
             met = 0;
             waiting = 0;
@@ -1854,18 +1837,17 @@ public final class DeadUnderstudies {
         }
     }
 
-    /** A CAST: in how many rows of the fewest PEOPLE all PARTS can be played, and the first row. */
+    /** Rows are counted by sets of PARTS, as there are far more rows than sets. */
     private static final class Cast {
         private static final int SETS = 1 << PART_ROOM;
+        private static final int NUMBERS = PART_ROOM + 1;
 
         private int parts = 0;
         private int people = 0;
-        // Sets of PARTS as bits: those a PERSON may play, those on stage in an hour of a PART's.
         private final int[] allowed = new int[PEOPLE_ROOM];
         private final int[] clashes = new int[PART_ROOM];
         private final boolean[] fits = new boolean[SETS];
-        // By a set of PARTS and a number of PEOPLE: in how many ways just so many play just these.
-        private final int[] ways = new int[SETS * (PART_ROOM + 1)];
+        private final int[] ways = new int[SETS * NUMBERS];
         private final int[] playing = new int[PEOPLE_ROOM];
         private final int[] row = new int[PART_ROOM];
         private int fewest = NONE;
@@ -1896,7 +1878,7 @@ public final class DeadUnderstudies {
             rows = 0;
             int all = (1 << parts) - 1;
             for (int number = 0; number <= PART_ROOM && fewest < 0; number++) {
-                rows = ways[all * (PART_ROOM + 1) + number];
+                rows = ways[all * NUMBERS + number];
                 if (rows > 0) fewest = number;
             }
             if (fewest < 0) return;
@@ -1904,7 +1886,6 @@ public final class DeadUnderstudies {
             findRow(0, 0);
         }
 
-        /** Which sets of PARTS have no hours in common. */
         private void markFits() {
             for (int set = 0; set < 1 << parts; set++) {
                 fits[set] = true;
@@ -1918,7 +1899,7 @@ public final class DeadUnderstudies {
             Arrays.fill(ways, 0);
             ways[0] = 1;
             for (int person = 0; person < people; person++) {
-                // From the large sets down, as a smaller one must not have this PERSON yet.
+                // From the large sets down, as the smaller ones must not have this PERSON yet.
                 for (int set = (1 << parts) - 1; set > 0; set--) {
                     for (int taken = set; taken > 0; taken = taken - 1 & set) {
                         if (fits[taken] && (taken & ~allowed[person]) == 0) addWays(set, set ^ taken);
@@ -1928,13 +1909,12 @@ public final class DeadUnderstudies {
         }
 
         private void addWays(int set, int without) {
-            int to = set * (PART_ROOM + 1);
-            int from = without * (PART_ROOM + 1);
+            int to = set * NUMBERS;
+            int from = without * NUMBERS;
             if (to < 0 || to + PART_ROOM >= ways.length || from < 0 || from + PART_ROOM >= ways.length) return;
             for (int number = 0; number < PART_ROOM; number++) ways[to + number + 1] += ways[from + number];
         }
 
-        /** Whether the PARTS from one on can be played by no more than the fewest PEOPLE, of whom some play. */
         private boolean findRow(int part, int players) {
             if (part >= parts || part >= PART_ROOM) return true;
             for (int person = 0; person < people; person++) {
