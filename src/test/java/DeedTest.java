@@ -92,6 +92,16 @@ public final class DeedTest {
         due("42: not by 3, ways", x.least(1), 0);
         due("42: what 2", x.least(2), -1);
         due("42: what -1", x.least(-1), -1);
+        x = told("001 002 003 001 002 003 001 002 003 001 002 003");
+        due("42: a ROW of twelve", x.least(0), 3);
+        due("42: a ROW of twelve, ways", x.least(1), 1);
+        due("43: behind twelve", x.would(0, 0), 1 << 1);
+        x = told("011 001 002 003");
+        // 0 0 1 2, 0 1 0 2, 0 1 2 0.
+        due("42: STATES numbered as they are met", x.least(1), 3);
+        x = told("000 009");
+        due("42: WORDS 0 and 9", x.least(0), 2);
+        due("43: WORDS 0 and 9", x.would(1, 0), 1);
         x = told("001 012 023 002");
         // The fourth can't be at STATE 0: 0 0 0 1, 0 0 1 1, 0 1 0 1, 0 1 1 1.
         due("42: ways of four", x.least(1), 4);

@@ -85,7 +85,30 @@ public final class ModelTest {
         for (int i = upTo(3); i > 0; i--) text(false);
         if (random.nextInt(3) > 0) call("force", -1);
         for (int i = upTo(30); i > 0; i--) any(random.nextInt(3) == 0 ? "begin" : "learn");
-        for (int i = upTo(12); i > 0; i--) any("deed");
+        if (random.nextBoolean()) deedsOfOne();
+        else for (int i = upTo(12); i > 0; i--) any("deed");
+    }
+
+    /** DEEDS of somebody with three STATES, so that there is a LEAST PART. */
+    private void deedsOfOne() throws Exception {
+        int cues = 1 + upTo(2);
+        int[] words = new int[18];
+        int[] nexts = new int[18];
+        for (int i = 0; i < 18; i++) {
+            words[i] = upTo(2);
+            nexts[i] = upTo(2);
+        }
+        int[] states = new int[4];
+        int rows = upTo(3);
+        for (int i = 6 + upTo(6); i > 0; i--) {
+            int row = upTo(rows);
+            int cue = upTo(cues);
+            int at = states[row] * 6 + cue;
+            call("deed", row, cue, words[at]);
+            states[row] = nexts[at];
+        }
+        for (int i = 0; i < 2; i++) call("least", i);
+        for (int i = 0; i < 6; i++) call("would", upTo(3), upTo(cues + 1));
     }
 
     private void spread() throws Exception {

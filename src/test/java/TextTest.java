@@ -115,6 +115,7 @@ public final class TextTest {
         due("15: 0 times it, too", says(x, "0*[1/0]"), -1);
         due("15: 1,000,000,000", says(x, "1000*1000*1000-1000*1000*1000+4"), 4);
         due("15: beyond it", says(x, "1000*1000*1000+1-1"), -1);
+        due("15: 1,000,000,000 below", says(x, "0-1000*1000*1000+1000*1000*1000+4"), 4);
         due("15: beyond it below", says(x, "0-1000*1000*1000-1+1"), -1);
         due("15: times", says(x, "1000*1000*1000*1000*0"), -1);
         due("15: the RULE stays", Checks.play(x, 0, "in 1 at 1 say 4 go 2;in 1 at 1 say 1/0;in 1 at 1 say 5 go 1/0"), 1);
@@ -169,6 +170,13 @@ public final class TextTest {
         int[] faults = {2, 0, 1, 3, 3, 3, 5, 8, 12, 13, 14, 14, 14, 16, 16, 18, 21, 15, 17, 19, 24, 22, 24, 24, 21, 30, 24,
             23, 21, 28, 15, 15, 24, 10, 0, 15, 16, 16, 24, 15, 19, 26, 22, 14, 18, 26, 22, 20};
         for (int i = 0; i < plays.length; i++) due("17: " + plays[i], Checks.faultOfPlay(x, plays[i]), faults[i]);
+        due("17: letters to z", Checks.faultOfPlay(x, "inz 0"), 0);
+        due("17: letters from a", Checks.faultOfPlay(x, "ina 0"), 0);
+        due("17: ahead of a", Checks.faultOfPlay(x, "in` 0"), 2);
+        due("17: behind z", Checks.faultOfPlay(x, "in{ 0"), 2);
+        due("17: digits to 9", Checks.faultOfPlay(x, "in 0 at 0 say 1 go 19 2"), 22);
+        due("17: behind 9", Checks.faultOfPlay(x, "in 0 at 0 say 1 go 1:2"), 20);
+        due("17: ahead of 0", Checks.faultOfPlay(x, "in 0 at 0 say 1 go 1/"), 21);
         String[] laws = {"slip 1", "slips", "slips state", "hours 1001", "bars 1", "bars if year", "slips 1 go 2",
             "slips 1 if year = 2 ; bars ; in", "hours 1 hours 2", "slips word", "bars if \u00e9 = 1", "slips[1]if(mood=teacher)x"};
         int[] lawFaults = {0, 5, 6, 6, 5, 12, 8, 29, 8, 6, 8, 24};
