@@ -52,7 +52,7 @@ public final class DeadUnderstudies {
 
     private final int[] tape = new int[TAPE_ROOM];
     private int tapeBytes = 0;
-    private final Reader reader = new Reader(tape);
+    private final Reader reader = new Reader();
     private final Program draft = new Program();
     private int prattleRules = 0;
 
@@ -69,6 +69,7 @@ public final class DeadUnderstudies {
     private boolean centuryKept = false;
     private final Script centuryScript = new Script();
     private final int[] pupilTimes = new int[PEOPLE_ROOM];
+    private int centuryPeople = 0;
 
     public DeadUnderstudies() {
     }
@@ -128,7 +129,8 @@ public final class DeadUnderstudies {
     }
 
     public int put(int person, int what, int value) {
-        boolean canBe = what == 0 ? value > 0 && value <= LAST_YEAR : what == 1 && isMemory(value);
+        // How low DEAD may be is told by BORN alone, so that is asked when the PERSON is known.
+        boolean canBe = what == 0 ? value <= LAST_YEAR : what == 1 && isMemory(value);
         if (!canBe) return refuse(BAD_NUMBER);
         People people = town.people;
         if (!people.has(person)) return refuse(NO_SUCH);
@@ -196,7 +198,7 @@ public final class DeadUnderstudies {
 
     public int play(int part) {
         if (!town.hasPart(part)) return refuse(NO_SUCH);
-        boolean whole = reader.read(tapeBytes, true, draft);
+        boolean whole = reader.read(tape, tapeBytes, true, draft);
         tapeBytes = 0;
         return whole ? accept(town.perform(draft, part)) : refuse(BAD_TEXT);
     }
@@ -205,7 +207,7 @@ public final class DeadUnderstudies {
         int bytes = tapeBytes;
         tapeBytes = 0;
         if (town.laws >= LAW_ROOM) return refuse(NO_ROOM);
-        return reader.read(bytes, false, draft) ? accept(town.addLaw(draft)) : refuse(BAD_TEXT);
+        return reader.read(tape, bytes, false, draft) ? accept(town.addLaw(draft)) : refuse(BAD_TEXT);
     }
 
     public int fault() {
@@ -441,8 +443,7 @@ public final class DeadUnderstudies {
     public int drawn(int state, int cue, int what) {
         if (!centuryKept) return NONE;
         if (what == 0) return centuryScript.wordAt(state, cue);
-        if (what == 1 && cue == 0 && town.people.has(state)) return pupilTimes[state];
-        return NONE;
+        return what == 1 && cue == 0 ? pupilTimesOf(state) : NONE;
     }
 
     // ---- IMAGES and what is counted
@@ -597,6 +598,7 @@ public final class DeadUnderstudies {
         centuryScript.copyFrom(town.scriptOfPart(part));
         Arrays.fill(pupilTimes, 0);
         int people = town.people.number;
+        centuryPeople = people;
         if (people <= 0) return;
         int s = seed;
         for (int lesson = 0; lesson < lessons; lesson++) {
@@ -607,6 +609,12 @@ public final class DeadUnderstudies {
             town.hear(pupil, part, NONE, town.terms[YEAR]);
             s = seedBehindLesson(s, town.heard[Program.SLIPS]);
         }
+    }
+
+    private int pupilTimesOf(int person) {
+        // BACK leaves the CENTURY as it is, so it tells of its own PEOPLE when they are gone, too.
+        boolean known = person < centuryPeople || town.people.has(person);
+        return known && person >= 0 && person < PEOPLE_ROOM ? pupilTimes[person] : NONE;
     }
 
     private int seedBehindLesson(int seed, int slips) {
@@ -1169,7 +1177,7 @@ public final class DeadUnderstudies {
         private static final int WEAKEST = 1;
         private static final int COMPARING = 4;
 
-        private final int[] tape;
+        private int[] tape = new int[0];
         private int length = 0;
         private int start = 0;
         private int stop = 0;
@@ -1183,12 +1191,9 @@ public final class DeadUnderstudies {
         private final int[] waitingSteps = new int[TAPE_ROOM];
         private final int[] waitingLeaps = new int[TAPE_ROOM];
 
-        Reader(int[] bytes) {
+        boolean read(int[] bytes, int number, boolean asPlay, Program into) {
             tape = bytes;
-        }
-
-        boolean read(int bytes, boolean asPlay, Program into) {
-            length = Math.min(bytes, tape.length);
+            length = Math.min(number, tape.length);
             stop = 0;
             faultPlace = NONE;
             isPlay = asPlay;

@@ -6,6 +6,7 @@ public final class CenturyTest {
         slips();
         withoutPeople();
         latest();
+        pupilsBehindBack();
         Checks.close();
     }
 
@@ -113,5 +114,28 @@ public final class CenturyTest {
         due("45: stays at BACK", x.drawn(0, 0, 0), 7);
         x.rule(1, 0, 0, 8, 0);
         due("45: as it was then", x.drawn(0, 0, 0), 7);
+    }
+
+    private static void pupilsBehindBack() {
+        DeadUnderstudies x = town(1);
+        x.image(0);
+        x.person(100, 150, 1);
+        x.century(5, 0, 100);
+        int first = x.drawn(0, 0, 1);
+        int second = x.drawn(1, 0, 1);
+        due("45: all lessons", first + second, 100);
+        x.back(0);
+        due("45: who stays at BACK", x.drawn(0, 0, 1), first);
+        due("45: who went by BACK", x.drawn(1, 0, 1), second);
+        due("45: nobody then and now", x.drawn(2, 0, 1), -1);
+        due("45: PERSON -1", x.drawn(-1, 0, 1), -1);
+        due("45: PERSON 8", x.drawn(8, 0, 1), -1);
+        x.person(100, 150, 1);
+        x.person(100, 150, 1);
+        due("45: who came behind it", x.drawn(2, 0, 1), 0);
+        x.century(5, 0, 0);
+        x.back(0);
+        due("45: of the latest CENTURY", x.drawn(1, 0, 1) * 10 + x.drawn(2, 0, 1), 0);
+        due("45: nobody then and now", x.drawn(3, 0, 1), -1);
     }
 }

@@ -65,6 +65,7 @@ final class Model {
     int[] refused = new int[12];
     int[][][] century;
     int[] pupils;
+    int peopleThen = 0;
 
     static int[][][] copyScript(int[][][] s) {
         int[][][] c = new int[6][6][];
@@ -123,7 +124,7 @@ final class Model {
                 t.people.add(new int[] {a[0], a[1], a[2]});
                 return accept(t.people.size() - 1);
             case "put": {
-                if (!in(a[1], 0, 1) || !in(a[2], 1, a[1] == 0 ? 300 : 9)) return refuse(-1);
+                if (!in(a[1], 0, 1) || a[2] > (a[1] == 0 ? 300 : 9) || a[1] == 1 && a[2] < 1) return refuse(-1);
                 if (!isPerson(a[0])) return refuse(-2);
                 if (a[1] == 0 && a[2] <= t.people.get(a[0])[0]) return refuse(-1);
                 int was = t.people.get(a[0])[a[1] + 1];
@@ -355,7 +356,7 @@ final class Model {
             case "drawn":
                 if (century == null) return NONE;
                 if (a[2] == 0) return ruleOf(century, a[0], a[1], 0);
-                return a[2] == 1 && a[1] == 0 && isPerson(a[0]) ? pupils[a[0]] : NONE;
+                return a[2] == 1 && a[1] == 0 && (isPerson(a[0]) || in(a[0], 0, peopleThen - 1)) ? pupils[a[0]] : NONE;
             case "image":
                 if (!in(a[0], 0, 1)) return refuse(-1);
                 images[a[0]] = t.copy();
@@ -718,6 +719,7 @@ final class Model {
         if (!isPart(part)) return refuse(-2);
         century = copyScript(t.scripts.get(part));
         pupils = new int[8];
+        peopleThen = t.people.size();
         long s = seed;
         for (int lesson = 0; lesson < n && !t.people.isEmpty(); lesson++) {
             s = (s * 1103 + 12345) % 1000003;
