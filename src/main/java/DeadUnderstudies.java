@@ -129,8 +129,8 @@ public final class DeadUnderstudies {
     }
 
     public int put(int person, int what, int value) {
-        // How low DEAD may be is told by BORN alone, so that is asked when the PERSON is known.
-        boolean canBe = what == 0 ? value <= LAST_YEAR : what == 1 && isMemory(value);
+        // Whether a YEAR is above BORN is asked behind -2, as only the PERSON tells it.
+        boolean canBe = what == 0 ? isYear(value) : what == 1 && isMemory(value);
         if (!canBe) return refuse(BAD_NUMBER);
         People people = town.people;
         if (!people.has(person)) return refuse(NO_SUCH);
@@ -503,6 +503,10 @@ public final class DeadUnderstudies {
 
     private static boolean isRule(int state, int cue) {
         return state >= 0 && state < STATES && cue >= 0 && cue < CUES;
+    }
+
+    private static boolean isYear(int year) {
+        return year >= 0 && year <= LAST_YEAR;
     }
 
     private static boolean isMemory(int memory) {

@@ -124,7 +124,7 @@ final class Model {
                 t.people.add(new int[] {a[0], a[1], a[2]});
                 return accept(t.people.size() - 1);
             case "put": {
-                if (!in(a[1], 0, 1) || a[2] > (a[1] == 0 ? 300 : 9) || a[1] == 1 && a[2] < 1) return refuse(-1);
+                if (!in(a[1], 0, 1) || !in(a[2], a[1], a[1] == 0 ? 300 : 9)) return refuse(-1);
                 if (!isPerson(a[0])) return refuse(-2);
                 if (a[1] == 0 && a[2] <= t.people.get(a[0])[0]) return refuse(-1);
                 int was = t.people.get(a[0])[a[1] + 1];

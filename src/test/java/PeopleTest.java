@@ -46,7 +46,9 @@ public final class PeopleTest {
         due("8: -1 ahead of -2", x.put(1, 0, 301), -1);
         due("8: DEAD not above BORN behind -2", x.put(1, 0, 10), -2);
         due("8: DEAD 0 behind -2", x.put(1, 0, 0), -2);
-        due("8: DEAD below 0 behind -2", x.put(1, 0, -7), -2);
+        due("8: DEAD below 0 ahead of -2", x.put(1, 0, -1), -1);
+        due("8: DEAD far below 0 ahead of -2", x.put(1, 0, Integer.MIN_VALUE), -1);
+        due("8: DEAD 300 behind -2", x.put(1, 0, 300), -2);
         due("8: DEAD 0", x.put(0, 0, 0), -1);
         due("8: DEAD below 0", x.put(0, 0, -7), -1);
         due("8: MEMORY 0 ahead of -2", x.put(1, 1, 0), -1);
