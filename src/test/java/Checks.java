@@ -1,6 +1,13 @@
+import java.lang.reflect.InvocationTargetException;
+import java.lang.reflect.Method;
+import java.util.Arrays;
+import java.util.Comparator;
+import java.util.function.IntUnaryOperator;
+
 /** What the tests share: calls counted that do not answer what is due, and TEXTS put on a TAPE. */
 final class Checks {
     private static int wrong = 0;
+    private static String sentence = "";
 
     private Checks() {
     }
@@ -8,7 +15,82 @@ final class Checks {
     static void due(String call, long got, long want) {
         if (got == want) return;
         wrong++;
-        System.out.println(call + " answered " + got + ", due is " + want);
+        System.out.println(sentence + call + " answered " + got + ", due is " + want);
+    }
+
+    /** Runs each method of a class that is told "promise N" by its name: so none can be left out by oversight. */
+    static void sentences(Class<?> tests) {
+        Method[] methods = tests.getDeclaredMethods();
+        Arrays.sort(methods, Comparator.comparing(Method::getName));
+        for (Method m : methods) {
+            if (!m.getName().matches("[pt][0-9]+[A-Z].*")) continue;
+            sentence = tests.getName() + "." + m.getName() + ": ";
+            try {
+                m.setAccessible(true);
+                m.invoke(null);
+            } catch (InvocationTargetException e) {
+                e.getCause().printStackTrace(System.out);
+                due("it threw: it", 1, 0);
+            } catch (IllegalAccessException e) {
+                due("it could not be run: it", 1, 0);
+            }
+        }
+        close();
+    }
+
+    /** A call that is taken: its answer, and no status. */
+    static void taken(DeadUnderstudies x, String call, long got, long want) {
+        due(call, got, want);
+        due("status behind " + call, x.status(), 0);
+    }
+
+    /** A call that is REFUSED: it is answered by that, status tells it, and the count of just that goes up. */
+    static void refused(DeadUnderstudies x, String call, IntUnaryOperator made, int by) {
+        int[] before = refusals(x);
+        due(call, made.applyAsInt(0), by);
+        due("status behind " + call, x.status(), by);
+        int[] behind = refusals(x);
+        int[] numbers = {-1, -2, -3, -5, -6};
+        for (int i = 0; i < 5; i++) {
+            due("how many were REFUSED by " + numbers[i] + " behind " + call, behind[i] - before[i], numbers[i] == by ? 1 : 0);
+        }
+    }
+
+    /** A number of a call that goes from low to high: those are taken, others REFUSED by -1. */
+    static void range(DeadUnderstudies x, String call, IntUnaryOperator made, int low, int high) {
+        for (int number : new int[] {low, high}) {
+            made.applyAsInt(number);
+            due("status behind " + call + " " + number, x.status(), 0);
+        }
+        tooFar(x, call, made, low, high);
+    }
+
+    /** Numbers below low and above high are REFUSED by -1. */
+    static void tooFar(DeadUnderstudies x, String call, IntUnaryOperator made, int low, int high) {
+        for (int number : new int[] {low - 1, high + 1, Integer.MIN_VALUE, Integer.MAX_VALUE}) {
+            refused(x, call + " " + number, ignored -> made.applyAsInt(number), -1);
+        }
+    }
+
+    /** An answer of NONE for numbers below low and above high, and another one for both of these. */
+    static void noneBeyond(String call, IntUnaryOperator made, int low, int high) {
+        for (int number : new int[] {low, high}) {
+            due(call + " " + number + " is NONE", made.applyAsInt(number) == -1 ? 1 : 0, 0);
+        }
+        noneOutside(call, made, low, high);
+    }
+
+    /** An answer of NONE for numbers below low and above high. */
+    static void noneOutside(String call, IntUnaryOperator made, int low, int high) {
+        for (int number : new int[] {low - 1, high + 1, Integer.MIN_VALUE, Integer.MAX_VALUE}) {
+            due(call + " " + number, made.applyAsInt(number), -1);
+        }
+    }
+
+    private static int[] refusals(DeadUnderstudies x) {
+        int[] counts = new int[5];
+        for (int i = 0; i < 5; i++) counts[i] = x.count(7 + i);
+        return counts;
     }
 
     /** Ends the test: with exit code 1, if a call was not answered as due. */
