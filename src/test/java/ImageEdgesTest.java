@@ -121,8 +121,8 @@ public final class ImageEdgesTest {
         x.force(-1);
         x.learn(n, 1 - n, 0);
         x.force(1 - n);
-        x.deed(0, 0, n);
-        x.deed(n, 0, 1);
+        x.deed(0, 2 * n, n);
+        x.deed(n, 2 * n, 1);
     }
 
     private static void look(DeadUnderstudies x, int n) {
