@@ -144,6 +144,9 @@ public final class ImageEdgesTest {
         due("HOURS of " + n, x.asks(1, 1, -1, 1), n == 0 ? 7 : 1);
         due("BARRED of " + n, x.asks(1, 1, -1, 2), 1 - n);
         due("SLIPS of " + n, x.asks(1, 1, -1, 0), n == 0 ? 0 : 5);
+        x.force(0);
+        due("LAW 0 of " + n, x.asks(0, 0, -1, 0), 1 + 2 * n);
+        x.force(1 - n);
         due("VERSION 0 of " + n, x.version(0, 0) * 100 + x.version(0, 1) * 10 + x.version(0, 2), n * 110 - 1);
         due("VERSION 2 of " + n, x.version(2, 0) * 100 + x.version(2, 1) * 10 + x.version(2, 2), n == 0 ? 10 : 1);
         due("RULES of " + n, x.version(0, 3) * 100 + x.version(2, 3), 1801);

@@ -178,6 +178,9 @@ public final class TextEdgesTest {
         fault(IF + "1=", ";in 0 at 0 hush");
         fault(IF + "[1", "=1]");
         fault(IF + "1=", "(1)");
+        fault(IF + "2*", "(1=2)");
+        fault(IF + "1+", "not 1=1");
+        fault(IF + "[1]-", "(1=1)");
     }
 
     static void t2Comparing() {
