@@ -1725,14 +1725,16 @@ public final class DeadUnderstudies {
             if (!fresh && said[rule] != words[deed]) return;
             said[rule] = words[deed];
             stateAt[deed] = state;
-            if (endsRow(deed)) explore(deed + 1, 0, met);
-            else if (goes[rule] >= 0) explore(deed + 1, goes[rule], met);
-            else branch(deed, rule, met);
+            goOn(deed, rule, met);
             if (fresh) said[rule] = NONE;
         }
 
-        private void branch(int deed, int rule, int met) {
+        private void goOn(int deed, int rule, int met) {
             if (rule < 0 || rule >= goes.length) return;
+            if (endsRow(deed) || goes[rule] >= 0) {
+                explore(deed + 1, endsRow(deed) ? 0 : goes[rule], met);
+                return;
+            }
             // No STATE beyond the next new one: with other numbers it would be the same way again.
             for (int next = 0; next <= met && next < limit; next++) {
                 goes[rule] = next;
@@ -1927,15 +1929,20 @@ public final class DeadUnderstudies {
         private boolean findRow(int part, int players) {
             if (part >= parts || part >= PART_ROOM) return true;
             for (int person = 0; person < people; person++) {
-                int had = playing[person];
-                int more = had == 0 ? players + 1 : players;
-                boolean able = (allowed[person] >> part & 1) == 1 && (had & clashes[part]) == 0;
-                if (!able || more > fewest) continue;
-                row[part] = person;
-                playing[person] = had | 1 << part;
-                if (findRow(part + 1, more)) return true;
-                playing[person] = had;
+                if (findRowWith(person, part, players)) return true;
             }
+            return false;
+        }
+
+        private boolean findRowWith(int person, int part, int players) {
+            int had = playing[person];
+            int more = had == 0 ? players + 1 : players;
+            boolean able = (allowed[person] >> part & 1) == 1 && (had & clashes[part]) == 0;
+            if (!able || more > fewest) return false;
+            row[part] = person;
+            playing[person] = had | 1 << part;
+            if (findRow(part + 1, more)) return true;
+            playing[person] = had;
             return false;
         }
 

@@ -2,9 +2,7 @@ import java.lang.reflect.InvocationTargetException;
 import java.lang.reflect.Method;
 import java.lang.reflect.Modifier;
 import java.util.Arrays;
-import java.util.HashSet;
 import java.util.Random;
-import java.util.Set;
 
 /** No call throws, whatever its numbers are; and the face is the document's, no more. */
 public final class AnyNumbersTest {
@@ -55,26 +53,5 @@ public final class AnyNumbersTest {
         Checks.due("constants of the face", fields, 1);
         Checks.due("constructors", c.getDeclaredConstructors().length, 1);
         Checks.due("NONE", DeadUnderstudies.NONE, -1);
-        Set<String> names = new HashSet<>();
-        for (Method m : c.getDeclaredMethods()) if (Modifier.isPublic(m.getModifiers())) names.add(m.getName());
-        for (Class<?> inner : c.getDeclaredClasses()) own(inner, names);
-        own(c, names);
-        Checks.due("classes", c.getDeclaredClasses().length < 12 ? 1 : 0, 1);
-    }
-
-    /** LANGUAGE.md, rules 1, 2, 5 and 11: no method with a name of the face's, no other static state, few fields. */
-    private static void own(Class<?> c, Set<String> names) {
-        for (Method m : c.getDeclaredMethods()) {
-            if (Modifier.isPublic(m.getModifiers()) && c == DeadUnderstudies.class) continue;
-            Checks.due(c.getName() + "." + m.getName() + " has a name of the face", names.contains(m.getName()) ? 1 : 0, 0);
-            Checks.due(c.getName() + "." + m.getName() + " has few numbers", m.getParameterCount() <= 7 ? 1 : 0, 1);
-        }
-        long fields = Arrays.stream(c.getDeclaredFields()).filter(f -> !Modifier.isStatic(f.getModifiers())).count();
-        Checks.due(c.getName() + " has few fields", fields <= 20 ? 1 : 0, 1);
-        boolean open = Arrays.stream(c.getDeclaredFields())
-            .anyMatch(f -> Modifier.isStatic(f.getModifiers()) && !Modifier.isFinal(f.getModifiers()));
-        Checks.due(c.getName() + " has static state", open ? 1 : 0, 0);
-        boolean isStatic = c == DeadUnderstudies.class || Modifier.isStatic(c.getModifiers());
-        Checks.due(c.getName() + " is static", isStatic ? 1 : 0, 1);
     }
 }

@@ -8,17 +8,9 @@ public final class BesideEdgesTest {
         Checks.due(call, got, want);
     }
 
-    private static DeadUnderstudies town(int parts) {
-        DeadUnderstudies x = new DeadUnderstudies();
-        for (int i = 0; i < parts; i++) x.part(0, 24);
-        x.person(0, 50, 5);
-        x.person(0, 40, 5);
-        return x;
-    }
-
     /** A town with a VERSION of each PLAY told. */
     private static DeadUnderstudies versions(String... plays) {
-        DeadUnderstudies x = town(plays.length);
+        DeadUnderstudies x = BesideTest.town(plays.length);
         for (int part = 0; part < plays.length; part++) {
             if (!plays[part].isEmpty()) Checks.play(x, part, plays[part]);
             x.begin(part, 0);
@@ -260,7 +252,7 @@ public final class BesideEdgesTest {
 
     // "the WORD most say at the last one, the lowest"
     static void p33MostAndLowest() {
-        DeadUnderstudies x = town(1);
+        DeadUnderstudies x = BesideTest.town(1);
         x.cue(0);
         int[] words = {9, 0, 9, 0, 5, 9};
         int[] most = {9, 0, 9, 0, 0, 9};
@@ -277,7 +269,7 @@ public final class BesideEdgesTest {
 
     // "whose HOLDER is ALIVE in YEAR"
     static void p33Alive() {
-        DeadUnderstudies x = town(1);
+        DeadUnderstudies x = BesideTest.town(1);
         x.cue(0);
         x.rule(0, 0, 0, 1, 0);
         x.begin(0, 0);
@@ -299,7 +291,7 @@ public final class BesideEdgesTest {
 
     // "how many STOPPED by then (2)": not at the last CUE alone.
     static void p33Stopped() {
-        DeadUnderstudies x = town(1);
+        DeadUnderstudies x = BesideTest.town(1);
         x.cue(0);
         x.cue(1);
         x.begin(0, 0);
@@ -319,7 +311,7 @@ public final class BesideEdgesTest {
 
     // "NONE (no CUES; nobody says any, for 0, 1)"
     static void p33Nones() {
-        DeadUnderstudies x = town(2);
+        DeadUnderstudies x = BesideTest.town(2);
         for (int what = 0; what <= 2; what++) due("no CUES, " + what, x.vote(0, what), -1);
         x.cue(0);
         for (int what = 0; what <= 2; what++) due("nobody says any, " + what, x.vote(0, what), what == 2 ? 0 : -1);
@@ -364,14 +356,14 @@ public final class BesideEdgesTest {
 
     // The TERM SLIP, not what a LAW tells.
     static void p34SlipIsTheTerm() {
-        DeadUnderstudies x = town(1);
+        DeadUnderstudies x = BesideTest.town(1);
         x.force(Checks.law(x, "slips 50"));
         due("drift(1, 1)", x.drift(1, 1), 10);
     }
 
     // "the WORDS that most of its VERSIONS say there (HOLES aside; all HOLES: none), as bits"
     static void p35Bits() {
-        DeadUnderstudies x = town(2);
+        DeadUnderstudies x = BesideTest.town(2);
         due("no VERSIONS", x.origin(0, 0, 0), 0);
         x.begin(0, 0);
         due("all HOLES", x.origin(0, 0, 0), 0);
@@ -390,7 +382,7 @@ public final class BesideEdgesTest {
 
     // A VERSION that was undone says nothing any more.
     static void p35NotOfOneUndone() {
-        DeadUnderstudies x = town(1);
+        DeadUnderstudies x = BesideTest.town(1);
         x.rule(0, 0, 0, 4, 0);
         x.begin(0, 0);
         x.rule(0, 0, 0, 5, 0);
@@ -412,7 +404,7 @@ public final class BesideEdgesTest {
     }
 
     static void p35Nones() {
-        DeadUnderstudies x = town(2);
+        DeadUnderstudies x = BesideTest.town(2);
         Checks.noneBeyond("PART", part -> x.origin(part, 0, 0), 0, 1);
         Checks.noneBeyond("STATE", state -> x.origin(0, state, 0), 0, 5);
         Checks.noneBeyond("CUE", cue -> x.origin(0, 0, cue), 0, 5);
@@ -420,7 +412,7 @@ public final class BesideEdgesTest {
 
     /** Ten VERSIONS that say ten WORDS at so many RULES. */
     private static DeadUnderstudies tenWords(int rules) {
-        DeadUnderstudies x = town(1);
+        DeadUnderstudies x = BesideTest.town(1);
         for (int word = 0; word < 10; word++) {
             for (int i = 0; i < rules; i++) x.rule(0, i / 6, i % 6, word, 0);
             x.begin(0, 0);
@@ -455,7 +447,7 @@ public final class BesideEdgesTest {
 
     // "how many SLIPS the first SCRIPT has at least (what 0)"
     static void p36Slips() {
-        DeadUnderstudies x = town(2);
+        DeadUnderstudies x = BesideTest.town(2);
         due("no VERSIONS", x.origins(0, 0), 0);
         Checks.play(x, 0, "in any at any say 3");
         x.begin(0, 0);
@@ -473,7 +465,7 @@ public final class BesideEdgesTest {
     }
 
     static void p36Nones() {
-        DeadUnderstudies x = town(2);
+        DeadUnderstudies x = BesideTest.town(2);
         Checks.noneBeyond("what", what -> (int) x.origins(0, what), 0, 1);
         Checks.noneBeyond("PART", part -> (int) x.origins(part, 1), 0, 1);
     }

@@ -17,7 +17,7 @@ public final class BesideTest {
         Checks.due(call, got, want);
     }
 
-    private static DeadUnderstudies town(int parts) {
+    static DeadUnderstudies town(int parts) {
         DeadUnderstudies x = new DeadUnderstudies();
         for (int i = 0; i < parts; i++) x.part(0, 24);
         x.person(0, 50, 5);

@@ -8,21 +8,13 @@ public final class CenturyEdgesTest {
         Checks.due(call, got, want);
     }
 
-    private static DeadUnderstudies town(int people) {
-        DeadUnderstudies x = new DeadUnderstudies();
-        x.part(0, 24);
-        x.part(0, 24);
-        for (int i = 0; i < people; i++) x.person(100, 150, 1);
-        return x;
-    }
-
     private static long draw(long s) {
         return (s * 1103 + 12345) % 1000003;
     }
 
     /** A CENTURY on paper: what it answers and what is drawn, of a SCRIPT with so many RULES, from the first on. */
     private static void century(int seed, int lessons, int people, int rules, int slip) {
-        DeadUnderstudies x = town(people);
+        DeadUnderstudies x = CenturyTest.town(people);
         for (int i = 0; i < rules; i++) x.rule(1, i / 6, i % 6, i % 10, i % 6);
         x.terms(2, slip);
         int[] pupils = new int[8];
@@ -48,7 +40,7 @@ public final class CenturyEdgesTest {
 
     // "SEED (0 .. 1,000,000)"
     static void p44Seed() {
-        DeadUnderstudies x = town(1);
+        DeadUnderstudies x = CenturyTest.town(1);
         Checks.range(x, "SEED", seed -> x.century(seed, 0, 1), 0, 1000000);
         century(0, 3, 3, 10, 50);
         century(1000000, 3, 3, 10, 50);
@@ -56,7 +48,7 @@ public final class CenturyEdgesTest {
 
     // "n lessons 0 .. 100"
     static void p44Lessons() {
-        DeadUnderstudies x = town(1);
+        DeadUnderstudies x = CenturyTest.town(1);
         Checks.range(x, "n", n -> x.century(0, 0, n), 0, 100);
         due("100 lessons", x.drawn(0, 0, 1), 100);
         century(77, 0, 2, 36, 100);
@@ -64,7 +56,7 @@ public final class CenturyEdgesTest {
     }
 
     static void p44NoSuchPart() {
-        DeadUnderstudies x = town(1);
+        DeadUnderstudies x = CenturyTest.town(1);
         Checks.taken(x, "the last PART", x.century(0, 1, 0), 0);
         for (int part : new int[] {-1, 2, 6, Integer.MIN_VALUE, Integer.MAX_VALUE}) {
             Checks.refused(x, "PART " + part, i -> x.century(0, part, 0), -2);
@@ -88,7 +80,7 @@ public final class CenturyEdgesTest {
         int[] slips = {68, 69, 94, 95};
         int[] otherwise = {0, 1, 1, 2};
         for (int i = 0; i < 4; i++) {
-            DeadUnderstudies x = town(4);
+            DeadUnderstudies x = CenturyTest.town(4);
             x.rule(0, 0, 0, 3, 0);
             x.rule(0, 5, 5, 3, 0);
             x.terms(2, slips[i]);
@@ -103,7 +95,7 @@ public final class CenturyEdgesTest {
         century(123, 1, 3, 36, 100);
         century(123, 9, 3, 36, 100);
         century(123, 10, 3, 36, 100);
-        DeadUnderstudies x = town(3);
+        DeadUnderstudies x = CenturyTest.town(3);
         x.rule(0, 5, 5, 9, 4);
         x.terms(2, 100);
         due("one", x.century(123, 0, 1), 1);
@@ -113,7 +105,7 @@ public final class CenturyEdgesTest {
 
     // "RULE by RULE that is no HOLE": a HOLE takes no DRAW.
     static void p44HolesTakeNoDraw() {
-        DeadUnderstudies x = town(4);
+        DeadUnderstudies x = CenturyTest.town(4);
         x.rule(0, 2, 2, 1, 0);
         x.rule(0, 4, 0, 1, 0);
         x.terms(2, 69);
@@ -124,7 +116,7 @@ public final class CenturyEdgesTest {
 
     // "a DRAW of PEOPLE: the pupil (without: none)"
     static void p44WithoutPeople() {
-        DeadUnderstudies x = town(0);
+        DeadUnderstudies x = CenturyTest.town(0);
         x.rule(0, 0, 0, 4, 0);
         x.terms(2, 100);
         Checks.taken(x, "century", x.century(5, 0, 100), 0);
@@ -134,7 +126,7 @@ public final class CenturyEdgesTest {
 
     // "what the pupil SLIPS (YEAR as told, no teacher)": whoever is ALIVE, BARRED or not.
     static void p44WhatThePupilSlips() {
-        DeadUnderstudies x = town(2);
+        DeadUnderstudies x = CenturyTest.town(2);
         Checks.play(x, 1, "in any at any say 0");
         x.terms(0, 7);
         x.force(Checks.law(x, "slips 0;slips 100 if year = 7 and teacher = 0-1 and part = 1 and person = 1;bars"));
@@ -147,7 +139,7 @@ public final class CenturyEdgesTest {
 
     // "how many WORDS are otherwise in the end"; "on paper": the PART stays.
     static void p44OnPaper() {
-        DeadUnderstudies x = town(1);
+        DeadUnderstudies x = CenturyTest.town(1);
         Checks.play(x, 0, "in any at any say 3 go 2");
         x.terms(2, 100);
         due("all", x.century(0, 0, 1), 36);
@@ -159,7 +151,7 @@ public final class CenturyEdgesTest {
 
     // "NONE" ahead of any CENTURY; one that was REFUSED is none.
     static void p45AheadOfAny() {
-        DeadUnderstudies x = town(1);
+        DeadUnderstudies x = CenturyTest.town(1);
         x.century(-1, 0, 0);
         x.century(0, 2, 0);
         due("WORD", x.drawn(0, 0, 0), -1);
@@ -168,7 +160,7 @@ public final class CenturyEdgesTest {
 
     // "the latest CENTURY"; "IMAGES keep all but .. the latest CENTURY".
     static void p45Latest() {
-        DeadUnderstudies x = town(1);
+        DeadUnderstudies x = CenturyTest.town(1);
         x.rule(0, 0, 0, 3, 0);
         x.rule(1, 0, 0, 7, 0);
         x.image(0);
@@ -185,7 +177,7 @@ public final class CenturyEdgesTest {
 
     // "the PERSON" of the CENTURY is told behind BACK, too.
     static void p45PeopleBehindBack() {
-        DeadUnderstudies x = town(1);
+        DeadUnderstudies x = CenturyTest.town(1);
         x.image(0);
         for (int i = 1; i < 8; i++) x.person(0, 9, 1);
         x.century(11, 0, 100);
@@ -200,7 +192,7 @@ public final class CenturyEdgesTest {
     }
 
     static void p45Nones() {
-        DeadUnderstudies x = town(2);
+        DeadUnderstudies x = CenturyTest.town(2);
         Checks.play(x, 0, "in any at any say 3");
         x.century(0, 0, 1);
         Checks.noneBeyond("STATE", state -> x.drawn(state, 0, 0), 0, 5);

@@ -14,7 +14,7 @@ public final class CenturyTest {
         Checks.due(call, got, want);
     }
 
-    private static DeadUnderstudies town(int people) {
+    static DeadUnderstudies town(int people) {
         DeadUnderstudies x = new DeadUnderstudies();
         x.part(0, 24);
         x.part(0, 24);
